@@ -741,6 +741,18 @@ public final class Oracle {
     return " ".repeat(needed ? Math.max(1, n) : n);
   }
 
+  /** The number of one who is there, mostly. */
+  static int right(int many) { return many == 0 || any(20) == 0 ? any(many + 2) : any(many); }
+
+  /** 150 bytes at most; more often than not behind a whole ITEM. */
+  static String cut(StringBuilder s) {
+    if (s.length() > 150) {
+      s.setLength(150);
+      if (any(4) != 0) s.setLength(s.lastIndexOf(";") + 1);
+    }
+    return s.toString();
+  }
+
   /** ITEMS that are mostly right, with a byte changed, put in or left out at times. */
   static String scribble() {
     StringBuilder s = new StringBuilder(blanks(false));
@@ -749,26 +761,29 @@ public final class Oracle {
     for (int k = any(16); k > 0; k--) {
       s.append(blanks(false));
       int what = any(12);
+      if (what > 6 && what != 8 && readers == 0 && any(12) != 0) what = 4;
+      if (what == 7 && men == 0 && any(12) != 0) what = 0;
+      if (what < 4 && men == 6 && any(12) != 0 || what > 3 && what < 6 && readers == 3 && any(12) != 0) what = 9;
       if (what < 4) { s.append("man").append(blanks(false)).append(between(0, 5)).append(blanks(true)).append(any(91)); men++; }
       else if (what < 6) { s.append("reader").append(blanks(false)).append(any(4) == 0 ? "0" : "").append(any(6)); readers++; }
       else if (what == 6) {
         s.append("fog");
-        for (int d = any(7); d >= 0; d--) s.append(blanks(true)).append(any(12) == 0 ? "01" : "" + any(2));
-      } else if (what == 7) s.append("deed").append(blanks(false)).append(any(men + 1)).append(blanks(true)).append(any(95));
+        for (int d = any(12) == 0 ? 6 : any(6); d >= 0; d--) s.append(blanks(true)).append(any(12) == 0 ? "01" : "" + any(2));
+      } else if (what == 7) s.append("deed").append(blanks(false)).append(right(men)).append(blanks(true)).append(any(20) == 0 ? any(95) : between(1, 90));
       else if (what == 8 && any(8) == 0) s.append(any(2) == 0 ? "ship 5" : "end");
       else {
-        s.append("noon").append(blanks(false)).append(any(8) == 0 ? any(5) : any(readers + 1));
-        for (int i = 0; i < men; i++) if (any(2) == 0) s.append(blanks(true)).append(any(12) == 0 ? any(men + 1) : i);
+        s.append("noon").append(blanks(false)).append(right(readers));
+        for (int i = 0; i < men; i++) if (any(2) == 0) s.append(blanks(true)).append(any(20) == 0 ? any(men + 1) : i);
       }
       s.append(blanks(false)).append(";");
     }
     s.append(blanks(false));
-    if (any(3) == 0 && s.length() > 0) s.setCharAt(any(s.length()), any(3) == 0 ? (char) any(128) : "; 019anz".charAt(any(8)));
+    if (any(4) == 0) return cut(s);
+    if (any(4) == 0 && s.length() > 0) s.setCharAt(any(s.length()), any(3) == 0 ? (char) any(128) : "; 019anz".charAt(any(8)));
     if (any(6) == 0 && s.length() > 0) s.deleteCharAt(any(s.length()));
     if (any(6) == 0) s.insert(any(s.length() + 1), "; 09az".charAt(any(6)));
     if (any(8) == 0) s.setLength(any(s.length() + 1));
-    if (s.length() > 150) s.setLength(150);
-    return s.toString();
+    return cut(s);
   }
 
   static void run() {
@@ -777,8 +792,8 @@ public final class Oracle {
     if (shape > 0) {
       o.both("ship", between(0, 9), 0, 0, 0);
       for (int d = 0; d < 6; d++) if (any(4) == 0) o.both("fog", d, 1, 0, 0);
-      for (int k = any(7); k > 0; k--) o.both("man", any(6), shape == 1 ? any(12) : any(91), 0, 0);
-      for (int k = any(4); k > 0; k--) o.both("reader", any(6), 0, 0, 0);
+      for (int k = any(8) == 0 ? 0 : between(1, 6); k > 0; k--) o.both("man", any(6), shape == 1 ? any(12) : any(91), 0, 0);
+      for (int k = any(8) == 0 ? 0 : between(1, 3); k > 0; k--) o.both("reader", any(6), 0, 0, 0);
     }
     for (int k = 0; k < 120; k++) {
       if (any(3) == 0) o.change(); else o.ask();
