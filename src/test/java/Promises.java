@@ -236,6 +236,12 @@ public final class Promises {
     fault("ship 5;reader 0;man 0 9;man 0 9;noon 0 1 0 1;", 43);
     fault("ship 5;reader 0;man 0 9;noon 0 0", 32);
     fault("ship 5;noon 0;reader 0;", 12);
+    String six = "ship5;reader0;man0 0;man0 0;man0 0;man0 0;man0 0;man0 0;noon0 0 1 2 3 4 5";
+    fault(six, 73);
+    fault(six + " ", 74);
+    fault(six + " 0;", 74);
+    fault(six + " 6;", 74);
+    fault(six + " x;", 74);
     fault("ship 5;\t", 7);
     fault("ship 5;\0", 7);
     fault("ship 5;fog-1;", 10);
@@ -366,6 +372,17 @@ public final class Promises {
     }
     due("SHAME behind eight", x.of(0, 1), 82);
     due("a ninth", x.undo(), -3);
+    ShameAngles y = told("ship 1;man 0 10;man 1 0;reader 0;");
+    for (int k = 1; k <= 11; k++) {
+      due("noon", y.noon(2, 0), k);
+    }
+    for (int day = 10; day >= 3; day--) {
+      due("undo of the last eight", y.undo(), day);
+      due("PLACE then", y.now(0), day);
+      due("LOG then", y.now(1), day);
+      due("SHAME then", y.of(0, 1), 10 + 3 * day);
+    }
+    due("no more of them", y.undo(), -3);
     x.deed(0, 1);
     x.seen(0, 0, 0);
     x.type('a');
@@ -658,6 +675,14 @@ public final class Promises {
     int[][] none = {{-1, 0}, {3, 0}, {0, -1}, {0, 3}, {MIN, 0}, {0, MAX}};
     for (int[] n : none) {
       bad("began(" + n[0] + ", " + n[1] + ")", x, all(x), x.began(n[0], n[1]));
+    }
+    ShameAngles y = told("ship 5;man 0 50;man 0 50;");
+    y.seen(0, 0, 0);
+    y.seen(1, 1, 3);
+    for (int i = 0; i < 2; i++) {
+      due("just 0", y.began(i, 0), 1);
+      due("just 0, the least", y.began(i, 1), 0);
+      due("just 0, the greatest", y.began(i, 2), 0);
     }
     x.forget(0);
     x.noon(1, 0);
