@@ -440,8 +440,8 @@ public final class EdgesAngles {
     row(x, 82, 0, 0, 0, 0, 0, 0);
     none(x, 81, 0);
     for (int kind = 0; kind <= 5; kind++) {
-      // at 9 leagues a NOON no ERROR makes up for a NOON less
-      x = told("ship 9;man 0 40;reader " + kind + ";");
+      // 2 more at most: four times 11 are not 45 yet
+      x = told("ship 9;man 0 0;reader " + kind + ";");
       row(x, 9, 0, -1);
       row(x, 18, 0, -1, -1);
       row(x, 27, 0, -1, -1, -1);
