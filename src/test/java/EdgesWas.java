@@ -346,6 +346,10 @@ public final class EdgesWas {
     pairs(told("ship 5;man 0 9;man 0 9;man 0 9;man 0 9;man 0 9;man 0 9;reader 0;"), 0, all);
     // once, if it is the same one: 2 off; two of them: 4 off
     pairs(told("ship 5;man 0 9;man 0 9;man 0 9;man 0 9;man 0 9;man 0 9;reader 1;"), 0, 0, 11, 22, 33, 44, 55);
+    // nobody stands at less than 0, and nobody but the MEN is chosen
+    pairs(told("ship 5;man 0 0;reader 0;"), 0, 0);
+    pairs(told("ship 5;man 2 10;man 5 12;man 0 0;reader 0;"), 0, 0, 1, 2, 10, 11, 12, 20, 21, 22);
+    pairs(told("ship 5;man 0 0;man 0 0;reader 1;"), 0, 0, 11);
     ShameAngles x = told("ship 5;man 0 9;reader 0;");
     due("officers(1, -1)", x.officers(1, -1), -10);
     due("officers(-1, -1)", x.officers(-1, -1), -10);
