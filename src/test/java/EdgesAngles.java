@@ -216,6 +216,11 @@ public final class EdgesAngles {
     due("nine times 3: on the 54th", x.when(2, 90), 54);
     due("30 of 0", x.when(3, 30), 60);
     due("31 of 0", x.when(3, 31), -1);
+    // clear are DAYS 0, 6, .., 54, 60 alone
+    x = told("ship 5;fog 0 1 1 1 1 1;man 0 60;man 0 57;man 0 59;");
+    due("ten times 3: behind DAY 54", x.when(0, 90), 55);
+    due("eleven times 3: behind DAY 60, on the 61st: none", x.when(1, 90), -1);
+    due("ten times 3 are 89: on the 61st: none", x.when(2, 90), -1);
     x = told("ship 5;fog 1 1 1 1 1 1;man 0 10;");
     due("always FOG, 10 of 10", x.when(0, 10), 0);
     due("always FOG, 11 of 10", x.when(0, 11), -1);

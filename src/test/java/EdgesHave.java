@@ -117,6 +117,56 @@ public final class EdgesHave {
     }
   }
 
+  /** As many of all as there may be, each number another one by this. */
+  private static void fillAll(ShameAngles x, int n) {
+    x.ship(n);
+    for (int d = 0; d <= 5; d++) x.fog(d, (n + d) % 2);
+    for (int i = 0; i <= 5; i++) x.man((i + n) % 6, 10 * i + n);
+    for (int r = 0; r <= 2; r++) x.reader((r + n) % 6);
+    for (int k = 0; k <= 5; k++) {
+      x.seen((k + n) % 6, 10 * k + n, 11 * k + n);
+      x.note((k + n) % 6, 12 * k + n, 13 * k + n, 14 * k + n);
+      x.mark((k + n) % 3, 15 * k + n, 16 * k + n, 17 * k + n);
+    }
+    for (int k = 0; k <= 7; k++) {
+      if (k % 3 == 2) x.deed((k + n) % 6, k + n);
+      else x.noon((7 * k + n) % 64, (k + n) % 3);
+    }
+  }
+
+  private static void imagesKeepAsManyAsThereMayBe() {
+    ShameAngles x = new ShameAngles();
+    fillAll(x, 1);
+    int[] many = {6, 3, 6, x.count(3), 6, 6, 6, 8, 0};
+    for (int k = 0; k <= 8; k++) due("count(" + k + ")", x.count(k), many[k]);
+    ShameAngles twin = new ShameAngles();
+    fillAll(twin, 1);
+    x.image(0);
+    twin.image(0);
+    fillAll(x, 4);
+    x.image(1);
+    long other = x.digest();
+    due("other ones", other == twin.digest() ? 1 : 0, 0);
+    due("from(0)", x.from(0), 1);
+    due("all of IMAGE 0", x.digest(), twin.digest());
+    for (int k = 7; k >= 0; k--) {
+      due("undo", x.undo(), twin.undo());
+      due("as ahead of the " + k + "th", x.digest(), twin.digest());
+    }
+    due("from(1)", x.from(1), 1);
+    due("all of IMAGE 1", x.digest(), other);
+    ShameAngles four = new ShameAngles();
+    fillAll(four, 4);
+    for (int k = 7; k >= 0; k--) {
+      due("undo", x.undo(), four.undo());
+      due("as ahead of the " + k + "th", x.digest(), four.digest());
+    }
+    fillAll(x, 2);
+    due("from(0) once more", x.from(0), 1);
+    fillAll(twin, 1);
+    due("all of IMAGE 0", x.digest(), twin.digest());
+  }
+
   private static void imagesAreApart() {
     ShameAngles x = told("ship 1;man 0 10;reader 0;");
     long first = x.digest();
@@ -340,6 +390,7 @@ public final class EdgesHave {
     Edge.test("An IMAGE of nobody", EdgesHave::imageOfNobody);
     Edge.test("IMAGES 0, 1 keep all but ..", EdgesHave::imagesKeepAll);
     Edge.test("IMAGES keep all: others in their place", EdgesHave::imagesKeepThemWithOthersInTheirPlace);
+    Edge.test("IMAGES keep all: as many as there may be", EdgesHave::imagesKeepAsManyAsThereMayBe);
     Edge.test("IMAGES 0, 1, apart", EdgesHave::imagesAreApart);
     Edge.test("what may be undone they keep; it goes on from one", EdgesHave::imagesKeepWhatMayBeUndone);
     Edge.test(".. THE TEXT, THE FRACTION and STATUS", EdgesHave::imagesLeaveOthers);
