@@ -529,6 +529,26 @@ public final class EdgesWas {
     due("nobody", new ShameAngles().voyages(999999, 60), 0);
   }
 
+  private static void voyagesOfEachPair() {
+    // the SEEDS by which MAN i is measured by READER r at the first NOON
+    int[][] seeds = {{0, 9, 27}, {23, 5, 192}, {15, 202, 1}, {81, 11, 25}, {21, 7, 8}, {17, 18, 3}};
+    for (int men = 0; men <= 6; men++) {
+      for (int readers = 0; readers <= 3; readers++) {
+        ShameAngles x = new ShameAngles();
+        for (int i = 0; i < men; i++) x.man(0, 11 + i);
+        int[] kinds = {4, 2, 1};
+        for (int r = 0; r < readers; r++) x.reader(kinds[r]);
+        for (int i = 0; i <= 5; i++) {
+          for (int r = 0; r <= 2; r++) {
+            // SILVERED: 1 .. 6 less, INDEX: 3 less, SQUINT: 2 more
+            int far = i < men && r < readers ? new int[] {1 + i, 3, 2}[r] : 0;
+            due("voyages(" + seeds[i][r] + ", 1), " + men + " MEN, " + readers + " READERS", x.voyages(seeds[i][r], 1), far);
+          }
+        }
+      }
+    }
+  }
+
   private static void voyagesCut() {
     String men = "man 0 11;man 0 12;man 0 13;man 0 14;man 0 15;man 0 16;";
     ShameAngles silvered = told("ship 5;" + men + "reader 4;reader 4;reader 4;");
@@ -585,6 +605,7 @@ public final class EdgesWas {
     Edge.test("the chance that the ERROR is 0 today (in FOG 1)", EdgesWas::slipsTodayAndInFog);
     Edge.test("VOYAGES by a SEED (0 .. 999999), n (0 .. 60) NOONS", EdgesWas::voyagesFromNoNoonToSixty);
     Edge.test("not there: nobody; not there: nobody is", EdgesWas::voyagesOfThoseNotThere);
+    Edge.test("MAN .. is measured by READER .., each of them", EdgesWas::voyagesOfEachPair);
     Edge.test("by 65536 (cut), by 6 left over; by 1048576 (cut), by 3 left over", EdgesWas::voyagesCut);
     Edge.test("how far OFF is from 0 behind each of them, all together", EdgesWas::voyagesGoOnFromOff);
   }
